@@ -25,9 +25,12 @@ public final class CountTest {
         Check.write(x, 3, "2[a]");
         Check.write(x, 3, "2[");
         counts(x, 3, 2, 6, 4, 3, 5, 5, 2, 2, 1, 3);
+        Check.write(x, 0, "a");
+        CHECK.due("a book of one beat", x.count(1), 3);
+        x.burn(0);
         x.forget();
         Check.lay(x, "g00,g00,g00,g99");
-        counts(x, 4, 2, 6, 0, 0, 0, 6, 0, 0, 2, 3);
+        counts(x, 4, 2, 6, 0, 0, 0, 6, 0, 0, 2, 4);
         for (int what : new int[] {-1, 11, Integer.MIN_VALUE, Integer.MAX_VALUE}) {
             CHECK.still(x, "count(" + what + ")", () -> x.count(what), SoundToll.OUTSIDE);
         }

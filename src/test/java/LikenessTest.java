@@ -18,8 +18,15 @@ public final class LikenessTest {
         apart("4[3[abcde]]", "a", 59);
         apart("4[3[abcde]]", "4[3[fffff]]", 60);
         apart("2[ab]", "2[ba]", 2);
+        apart("a", ".", 1);
+        apart("a", ".a", 1);
+        apart("a", "a.", 1);
+        apart(".ab", "b", 2);
         alike("a", "a", 1, 0);
         alike("a", "b", 0, -1);
+        alike("a", "a.", 1, 0);
+        alike("a", ".a", 1, 0);
+        alike("a.", "b.a", 1, 0);
         alike("abcd", "bc", 2, 1);
         alike("bc", "abcd", 2, 0);
         alike("abxab".replace('x', 'd'), "ab", 2, 0);
@@ -45,6 +52,7 @@ public final class LikenessTest {
         often("a.a", ".", 1);
         often("4[3[aaaaa]]", "a", 60);
         often("4[3[aaaaa]]", "4[3[aaaaa]]", 1);
+        oneBehindTheOther();
         refused();
         CHECK.end();
     }
@@ -68,6 +76,20 @@ public final class LikenessTest {
         SoundToll x = Check.made("", "", "", one, other);
         CHECK.still(x, "often " + one + " " + other, () -> x.often(2, 3), want);
         CHECK.due("often itself", x.often(2, 2), 1);
+    }
+
+    private static void oneBehindTheOther() {
+        SoundToll x = Check.made("", "abc", "a", "gfedcba", "ddd");
+        int[][] alike = {{3, 1, 1, 0}, {1, 1, 1, 0}, {1, 1, 7, 1}, {0, 0, 1, 3}};
+        for (int a = 0; a < 4; a++) {
+            for (int b = 0; b < 4; b++) {
+                int apart = x.apart(a, b);
+                int many = x.alike(a, b, 0);
+                CHECK.due("apart " + a + " " + b, apart, x.apart(b, a));
+                CHECK.due("alike " + a + " " + b, many, alike[a][b]);
+                CHECK.due("alike again", x.alike(a, b, 0), many);
+            }
+        }
     }
 
     private static void refused() {

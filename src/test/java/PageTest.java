@@ -93,6 +93,19 @@ public final class PageTest {
         roadFault("xg00,g00", 0);
     }
 
+    /** What a text left open is not there for the next one. */
+    private static void leavesNothing(String left) {
+        SoundToll x = new SoundToll();
+        Check.spell(x, left);
+        CHECK.due("tuneFault of " + left, x.tuneFault(), left.length());
+        x.blank();
+        Check.spell(x, "(a)c");
+        CHECK.due("tuneFault behind " + left, x.tuneFault(), 4);
+        CHECK.due("write behind " + left, x.write(0), 2);
+        CHECK.due("beat behind " + left, x.beat(0, 0), 1);
+        CHECK.due("depth behind " + left, x.tune(0, 7), 0);
+    }
+
     private static void tuneFault(String text, int want) {
         SoundToll x = new SoundToll();
         Check.spell(x, text);
@@ -163,5 +176,8 @@ public final class PageTest {
         x.blank();
         Check.spell(x, "a]");
         CHECK.due("nothing is open behind blank", x.tuneFault(), 1);
+        for (String left : new String[] {"^", "(b", "2", "2[^", "<c^^", "4[4[4[a]]]"}) {
+            leavesNothing(left);
+        }
     }
 }
