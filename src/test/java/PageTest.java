@@ -100,7 +100,6 @@ public final class PageTest {
         CHECK.due("tuneFault of " + left, x.tuneFault(), left.length());
         x.blank();
         Check.spell(x, "(a)c");
-        CHECK.due("tuneFault behind " + left, x.tuneFault(), 4);
         CHECK.due("write behind " + left, x.write(0), 2);
         CHECK.due("beat behind " + left, x.beat(0, 0), 1);
         CHECK.due("depth behind " + left, x.tune(0, 7), 0);
