@@ -22,6 +22,11 @@ final class Check {
         due(call + ", digest", x.digest(), before);
     }
 
+    /** How many answers were looked at. */
+    int rows() {
+        return rows;
+    }
+
     void end() {
         System.out.println(wrong == 0 ? rows + " answers are as due" : wrong + " of " + rows + " answers are not as due");
         if (wrong != 0 || rows == 0) {

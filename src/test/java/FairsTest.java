@@ -28,15 +28,19 @@ public final class FairsTest {
         CHECK.due("no change", dear.fairs(60, 3, 1), 0);
     }
 
-    private static void asDrawn() {
+    private static SoundToll wornAndBlown() {
         SoundToll x = Check.made("g02,c05,b04", "ab(cg)", "", "ag.g", "4[(ab)]");
         x.go(0, 0);
         x.go(2, 2);
         x.go(2, 2);
         x.wind(1, 5);
+        return x;
+    }
+
+    private static void asDrawn() {
         for (int times : new int[] {1, 2, 3, 17, 59, 60}) {
             for (int first : new int[] {0, 1, 77, 12345, 2147483647}) {
-                fairs(x, times, first);
+                fairs(wornAndBlown(), times, first);
             }
         }
     }

@@ -153,11 +153,16 @@ public final class GateTest {
         CHECK.due("a new one", x.go(0, 0), 1);
     }
 
-    private static void refused() {
+    private static SoundToll goneOnce() {
         SoundToll x = Check.made("g01,b02", "ab", "", "c");
         x.go(0, 0);
         Check.spell(x, "g0");
+        return x;
+    }
+
+    private static void refused() {
         for (int gate : NO_GATE) {
+            SoundToll x = goneOnce();
             for (int what : new int[] {0, 8, 9, -1}) {
                 CHECK.still(x, "gate(" + gate + ", " + what + ")", () -> x.gate(gate, what), SoundToll.UNKNOWN);
                 CHECK.still(x, "as(" + gate + ", " + what + ")", () -> x.as(gate, what), SoundToll.UNKNOWN);
@@ -168,9 +173,10 @@ public final class GateTest {
             ofTwo(x, 0, gate);
         }
         for (int book : NO_BOOK) {
-            ofTwo(x, book, 0);
-            ofTwo(x, book, 2);
+            ofTwo(goneOnce(), book, 0);
+            ofTwo(goneOnce(), book, 2);
         }
+        SoundToll x = goneOnce();
         for (int out : new int[] {-1, 100, 9, Integer.MIN_VALUE, Integer.MAX_VALUE}) {
             CHECK.still(x, "gate(0, " + out + ")", () -> x.gate(0, out), SoundToll.OUTSIDE);
             CHECK.still(x, "wind(0, " + out + ")", () -> x.wind(0, out), SoundToll.OUTSIDE);

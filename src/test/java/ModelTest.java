@@ -49,8 +49,12 @@ public final class ModelTest {
         }
     }
 
+    /** What is answered behind the last call that is promised is free. */
     private void due(String call, long got, long want) {
         calls++;
+        if (calls > CALLS) {
+            return;
+        }
         CHECK.due("run " + run + ", call " + calls + " (page: " + spelt + "): " + call, got, want);
     }
 
