@@ -257,6 +257,12 @@ final class CountEdges extends Edges {
                 row(1, 0, 1), row(1, 0, 0), row(-1, -1, -1),
                 row(0, 1, 0, 0, 0, 100, 0, 99, 0), row(3, 0, 0, 0, 0, 100, 0, 99, 0),
                 row(1, 0, 0, -1, -1, -1), row(2, 1, 2, 0, 0, 0, 2, 0, 0, 1, 1));
+        digests(Scenes::busy, "the object that is busy",
+                row(3, 4, 0, 1, 6, 3, 0, 0, 3), row(1, 2, 68), row(3, 1, 3), row(6, 0, 3), row(9, 1, 3),
+                row(4, 3, 1, 0, 6, 4, 0, 2, 2), row(1, 64, 0, 64), row(3, 0, 2), row(1, 2, NONE), row(7, 0, 2),
+                row(-1), row(2, 2, 0, 0, 3, 1, 1, 1, 1), row(8, 8), row(1, 1, NONE), row(6, 0, 2), row(1, 0, NONE),
+                row(0, 2, 1, 2, 0, 4, 0, 3, 3), row(1, 4, 5, 1, 1, 98, 2, 99, 0), row(4, 3, 0, 1, 0, 98, 2, 99, 0),
+                row(3, 7, 0, 2, -1, 1), row('g', '0'), row(3, 3, 9, 4, 1, 5, 6, 3, 2, 1, 3));
     }
 
     private static SoundToll seenToOwe() {
@@ -294,8 +300,9 @@ final class CountEdges extends Edges {
     }
 
     private void codes() {
-        digests(() -> Scenes.spelt("~ "), "a page of two", NO_BOOKS, row(126, 32), row(0, 0, 0, 0, 0, 0, 0, 0, 2, 0, 0));
-        digests(() -> Scenes.spelt(" ~"), "the same turned", NO_BOOKS, row(32, 126), row(0, 0, 0, 0, 0, 0, 0, 0, 2, 0, 0));
+        long[] twoLetters = {0, 0, 0, 0, 0, 0, 0, 0, 2, 0, 0};
+        digests(() -> Scenes.spelt("~ "), "a page of two", NO_BOOKS, row(126, 32), twoLetters);
+        digests(() -> Scenes.spelt(" ~"), "the same turned", NO_BOOKS, row(32, 126), twoLetters);
         Scenes.Scene blanked = () -> {
             SoundToll x = Scenes.spelt("abc");
             x.blank();

@@ -282,7 +282,8 @@ final class FairEdges extends Edges {
 
     private void noRoad() {
         for (int times : new int[] {1, 60}) {
-            refuses(Scenes::roadless, "fairs(" + times + ", 0, ..)", (x, what) -> x.fairs(times, 0, what), STATE, 0, 1, 2);
+            refuses(Scenes::roadless, "fairs(" + times + ", 0, ..)", (x, what) -> x.fairs(times, 0, what),
+                    STATE, 0, 1, 2);
             refuses(SoundToll::new, "fairs(" + times + ", " + MOST + ", ..)", (x, what) -> x.fairs(times, MOST, what),
                     STATE, 0, 1, 2);
         }

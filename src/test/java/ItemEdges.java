@@ -15,7 +15,8 @@ final class ItemEdges extends Edges {
         term("A TUNE is a text of one ITEM, or more, one right behind the other.", this::itemsBehindOneAnother);
         term("An ITEM is a NOTE, a letter \"a\" to \"g\"", this::noteLetters);
         term("or \".\" (a REST)", this::rests);
-        term("or \"(\", one NOTE or more (one again, too: it is there once), \")\": one BEAT of all these", this::chords);
+        term("or \"(\", one NOTE or more (one again, too: it is there once), \")\": one BEAT of all these",
+                this::chords);
         term("or a digit (2 to 4), \"[\", a TUNE, \"]\": that as often", this::repeats);
         term("or \"<\", a TUNE, \">\": its BEATS the other way about, the last one first", this::backwards);
         term("or \"^\" and an ITEM: all its NOTES by one higher (a above g).", this::higherByOne);
@@ -169,6 +170,12 @@ final class ItemEdges extends Edges {
         reads("^2[fg]f", 64, 1, 64, 1, 32);
         reads("^<fg>f", 1, 64, 32);
         reads("^<f^g>", 2, 64);
+        reads("a^2[b]", 1, 4, 4);
+        reads("a^<bc>d", 1, 8, 4, 8);
+        reads("<<a>>^<b>", 1, 4);
+        reads("2[2[a]]^2[b]^c", 1, 1, 1, 1, 4, 4, 8);
+        reads("^<<a>b>c", 4, 2, 4);
+        reads("<^<a>b>c", 2, 2, 4);
         reads("^^2[^eg]", 1, 2, 1, 2);
     }
 

@@ -8,8 +8,8 @@ final class LikenessEdges extends Edges {
 
     @Override
     void hold() {
-        term("APART: how many BEATS to put in, to take out, or to change, at least, so that one TUNE is as another one.",
-                this::leastChanges);
+        term("APART: how many BEATS to put in, to take out, or to change, at least, "
+                + "so that one TUNE is as another one.", this::leastChanges);
         term("ALIKE: the longest run of BEATS, one right behind the other, that two TUNES have both: how many",
                 this::longestRun);
         term("that two TUNES have both: how many", this::oneBehindTheOther);

@@ -5,6 +5,43 @@ final class RefusalEdges extends Edges {
     /** What is asked of every number of every call: at the edges of what the document tells, and far off. */
     private static final int[] NUMBERS = {MIN, -1, 0, 1, 2, 3, 4, 6, 7, 9, 10, 13, 14, 31, 60, 61, 99, 100, 127, MAX};
 
+    /** A call with two of its numbers left open, or fewer, if it has no more. */
+    private interface OfTwo {
+        long on(SoundToll x, int one, int other);
+    }
+
+    private record Asked(String name, OfTwo call) {
+    }
+
+    private static final Asked[] ASKED = {
+        new Asked("letter", (x, a, b) -> x.letter(a)),
+        new Asked("road", (x, a, b) -> x.road()),
+        new Asked("write", (x, a, b) -> x.write(a)),
+        new Asked("burn", (x, a, b) -> x.burn(a)),
+        new Asked("tune", (x, a, b) -> x.tune(a, b)),
+        new Asked("beat", (x, a, b) -> x.beat(a, b)),
+        new Asked("apart", (x, a, b) -> x.apart(a, b)),
+        new Asked("alike", (x, a, b) -> x.alike(a, b, 0)),
+        new Asked("alike what", (x, a, b) -> x.alike(a, 0, b)),
+        new Asked("often", (x, a, b) -> x.often(a, b)),
+        new Asked("gate", (x, a, b) -> x.gate(a, b)),
+        new Asked("as", (x, a, b) -> x.as(a, b)),
+        new Asked("pays", (x, a, b) -> x.pays(a, b)),
+        new Asked("worn", (x, a, b) -> x.worn(a, b)),
+        new Asked("wind", (x, a, b) -> x.wind(a, b)),
+        new Asked("toll", (x, a, b) -> x.toll(a, b)),
+        new Asked("go", (x, a, b) -> x.go(a, b)),
+        new Asked("shortest", (x, a, b) -> x.shortest(a, b)),
+        new Asked("higher", (x, a, b) -> x.higher(a, b)),
+        new Asked("send", (x, a, b) -> x.send(a)),
+        new Asked("see", (x, a, b) -> x.see(a, b, true)),
+        new Asked("not see", (x, a, b) -> x.see(a, b, false)),
+        new Asked("fairs", (x, a, b) -> x.fairs(a, b, 2)),
+        new Asked("fairs what", (x, a, b) -> x.fairs(a, 1, b)),
+        new Asked("image", (x, a, b) -> x.image()),
+        new Asked("restore", (x, a, b) -> x.restore()),
+        new Asked("count", (x, a, b) -> x.count(a))};
+
     RefusalEdges(Sentences doc) {
         super(doc);
     }
@@ -54,54 +91,33 @@ final class RefusalEdges extends Edges {
         return x;
     }
 
-    private void first(Scenes.Scene scene, String call, Scenes.Call asked, int want) {
-        still(scene, call, asked, want);
-    }
-
     private void theFirstOfSeveral() {
-        first(RefusalEdges::full, "letter(127): OUTSIDE, FULL", x -> x.letter(127), OUTSIDE);
-        first(RefusalEdges::full, "write(4): UNKNOWN, FULL", x -> x.write(4), UNKNOWN);
-        first(Scenes::busy, "write(4): UNKNOWN, STATE", x -> x.write(4), UNKNOWN);
-        first(() -> Scenes.busy("4[4[4[a]]]2["), "write(0): STATE, FULL", x -> x.write(0), STATE);
-        first(Scenes::busy, "tune(2, 9): UNKNOWN, OUTSIDE", x -> x.tune(2, 9), UNKNOWN);
-        first(Scenes::busy, "alike(0, 2, 2): UNKNOWN, OUTSIDE", x -> x.alike(0, 2, 2), UNKNOWN);
-        first(Scenes::busy, "gate(3, 9): UNKNOWN, OUTSIDE", x -> x.gate(3, 9), UNKNOWN);
-        first(Scenes::busy, "as(3, 5): UNKNOWN, OUTSIDE", x -> x.as(3, 5), UNKNOWN);
-        first(Scenes::busy, "wind(3, 7): UNKNOWN, OUTSIDE", x -> x.wind(3, 7), UNKNOWN);
-        first(Scenes::busy, "toll(3, 100): UNKNOWN, OUTSIDE", x -> x.toll(3, 100), UNKNOWN);
-        first(Scenes::roadless, "higher(2, 2): UNKNOWN, OUTSIDE, STATE", x -> x.higher(2, 2), UNKNOWN);
-        first(Scenes::roadless, "higher(2, 0): UNKNOWN, STATE", x -> x.higher(2, 0), UNKNOWN);
-        first(Scenes::roadless, "higher(0, 2): OUTSIDE, STATE", x -> x.higher(0, 2), OUTSIDE);
-        first(Scenes::roadless, "send(2): OUTSIDE, STATE", x -> x.send(2), OUTSIDE);
-        first(RefusalEdges::full, "see(2, 0, true): UNKNOWN, FULL", x -> x.see(2, 0, true), UNKNOWN);
-        first(RefusalEdges::full, "see(0, 3, true): UNKNOWN, FULL", x -> x.see(0, 3, true), UNKNOWN);
-        first(Scenes::roadless, "fairs(0, 0, 0): OUTSIDE, STATE", x -> x.fairs(0, 0, 0), OUTSIDE);
-        first(Scenes::roadless, "fairs(1, -1, 0): OUTSIDE, STATE", x -> x.fairs(1, -1, 0), OUTSIDE);
-        first(Scenes::roadless, "fairs(1, 0, 3): OUTSIDE, STATE", x -> x.fairs(1, 0, 3), OUTSIDE);
+        still(RefusalEdges::full, "letter(127): OUTSIDE, FULL", x -> x.letter(127), OUTSIDE);
+        still(RefusalEdges::full, "write(4): UNKNOWN, FULL", x -> x.write(4), UNKNOWN);
+        still(Scenes::busy, "write(4): UNKNOWN, STATE", x -> x.write(4), UNKNOWN);
+        still(() -> Scenes.busy("4[4[4[a]]]2["), "write(0): STATE, FULL", x -> x.write(0), STATE);
+        still(Scenes::busy, "tune(2, 9): UNKNOWN, OUTSIDE", x -> x.tune(2, 9), UNKNOWN);
+        still(Scenes::busy, "alike(0, 2, 2): UNKNOWN, OUTSIDE", x -> x.alike(0, 2, 2), UNKNOWN);
+        still(Scenes::busy, "gate(3, 9): UNKNOWN, OUTSIDE", x -> x.gate(3, 9), UNKNOWN);
+        still(Scenes::busy, "as(3, 5): UNKNOWN, OUTSIDE", x -> x.as(3, 5), UNKNOWN);
+        still(Scenes::busy, "wind(3, 7): UNKNOWN, OUTSIDE", x -> x.wind(3, 7), UNKNOWN);
+        still(Scenes::busy, "toll(3, 100): UNKNOWN, OUTSIDE", x -> x.toll(3, 100), UNKNOWN);
+        still(Scenes::roadless, "higher(2, 2): UNKNOWN, OUTSIDE, STATE", x -> x.higher(2, 2), UNKNOWN);
+        still(Scenes::roadless, "higher(2, 0): UNKNOWN, STATE", x -> x.higher(2, 0), UNKNOWN);
+        still(Scenes::roadless, "higher(0, 2): OUTSIDE, STATE", x -> x.higher(0, 2), OUTSIDE);
+        still(Scenes::roadless, "send(2): OUTSIDE, STATE", x -> x.send(2), OUTSIDE);
+        still(RefusalEdges::full, "see(2, 0, true): UNKNOWN, FULL", x -> x.see(2, 0, true), UNKNOWN);
+        still(RefusalEdges::full, "see(0, 3, true): UNKNOWN, FULL", x -> x.see(0, 3, true), UNKNOWN);
+        still(Scenes::roadless, "fairs(0, 0, 0): OUTSIDE, STATE", x -> x.fairs(0, 0, 0), OUTSIDE);
+        still(Scenes::roadless, "fairs(1, -1, 0): OUTSIDE, STATE", x -> x.fairs(1, -1, 0), OUTSIDE);
+        still(Scenes::roadless, "fairs(1, 0, 3): OUTSIDE, STATE", x -> x.fairs(1, 0, 3), OUTSIDE);
     }
-
-    /** A call with two numbers; who takes fewer leaves the second out, who takes more has it twice. */
-    private interface OfTwo {
-        long on(SoundToll x, int one, int other);
-    }
-
-    private static final String[] NAMES = {"letter", "road", "write", "burn", "tune", "beat", "apart", "alike",
-        "alike what", "often", "gate", "as", "pays", "worn", "wind", "toll", "go", "shortest", "higher", "send", "see",
-        "not see", "fairs", "fairs what", "image", "restore", "count"};
-    private static final OfTwo[] CHANGING = {(x, a, b) -> x.letter(a), (x, a, b) -> x.road(), (x, a, b) -> x.write(a),
-        (x, a, b) -> x.burn(a), (x, a, b) -> x.tune(a, b), (x, a, b) -> x.beat(a, b), (x, a, b) -> x.apart(a, b),
-        (x, a, b) -> x.alike(a, b, 0), (x, a, b) -> x.alike(a, 0, b), (x, a, b) -> x.often(a, b),
-        (x, a, b) -> x.gate(a, b), (x, a, b) -> x.as(a, b), (x, a, b) -> x.pays(a, b), (x, a, b) -> x.worn(a, b),
-        (x, a, b) -> x.wind(a, b), (x, a, b) -> x.toll(a, b), (x, a, b) -> x.go(a, b), (x, a, b) -> x.shortest(a, b),
-        (x, a, b) -> x.higher(a, b), (x, a, b) -> x.send(a), (x, a, b) -> x.see(a, b, true),
-        (x, a, b) -> x.see(a, b, false), (x, a, b) -> x.fairs(a, b, 2), (x, a, b) -> x.fairs(a, 1, b),
-        (x, a, b) -> x.image(), (x, a, b) -> x.restore(), (x, a, b) -> x.count(a)};
 
     private void changeNothing() {
         Scenes.Scene[] scenes = {SoundToll::new, Scenes::roadless, Scenes::busy, RefusalEdges::full};
         for (Scenes.Scene scene : scenes) {
             long[] asItWas = Scenes.told(scene.made());
-            for (int call = 0; call < NAMES.length; call++) {
+            for (Asked call : ASKED) {
                 for (int one : NUMBERS) {
                     for (int other : NUMBERS) {
                         refusedChangesNothing(scene, call, one, other, asItWas);
@@ -111,13 +127,13 @@ final class RefusalEdges extends Edges {
         }
     }
 
-    private void refusedChangesNothing(Scenes.Scene scene, int call, int one, int other, long[] asItWas) {
+    private void refusedChangesNothing(Scenes.Scene scene, Asked call, int one, int other, long[] asItWas) {
         SoundToll x = scene.made();
-        long answer = CHANGING[call].on(x, one, other);
-        String of = NAMES[call] + " of " + one + ", " + other;
-        due(of + " answers " + answer + ", which tells something", answer >= NONE || answer <= UNKNOWN && answer >= FULL
-                ? 1 : 0, 1);
-        if (answer < NONE) {
+        long answer = call.call.on(x, one, other);
+        String of = call.name + " of " + one + ", " + other;
+        boolean refused = answer <= UNKNOWN && answer >= FULL;
+        due(of + " answers " + answer + ", a refusal or not below -1", refused || answer >= NONE ? 1 : 0, 1);
+        if (refused) {
             long[] told = Scenes.told(x);
             for (int row = 0; row < told.length; row++) {
                 due(of + ", refused: " + Scenes.TOLD[row], told[row], asItWas[row]);
@@ -137,10 +153,10 @@ final class RefusalEdges extends Edges {
 
     private void lastCalls() {
         SoundToll early = before(CALLS - 7 * 70);
-        for (int call = 0; call < NAMES.length; call++) {
+        for (Asked call : ASKED) {
             for (int one = 0; one < 2; one++) {
-                String of = NAMES[call] + " of " + one + ", 1 as the last call";
-                due(of, CHANGING[call].on(before(CALLS), one, 1), CHANGING[call].on(before(CALLS - 7 * 70), one, 1));
+                String of = call.name + " of " + one + ", 1 as the last call";
+                due(of, call.call.on(before(CALLS), one, 1), call.call.on(before(CALLS - 7 * 70), one, 1));
             }
         }
         due("digest() as the last call", before(CALLS).digest(), early.digest());

@@ -55,8 +55,8 @@ final class RoadEdges extends Edges {
             due("toll of g" + digits, x.gate(0, 1), toll);
             due("toll of b" + digits, x.gate(1, 1), toll);
         }
-        for (String gate : new String[] {"g", "g0", "g000", "00", "0g0", "00g", "gg00", "g/0", "g:0", "g0/", "g0:", "g-1",
-            "g 0", "g0 "}) {
+        for (String gate : new String[] {"g", "g0", "g000", "00", "0g0", "00g", "gg00", "g/0", "g:0", "g0/", "g0:",
+            "g-1", "g 0", "g0 "}) {
             noRoad(gate + ",g00");
             noRoad("g00," + gate);
         }

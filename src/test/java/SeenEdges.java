@@ -139,10 +139,34 @@ final class SeenEdges extends Edges {
         x.go(1, 0);
         x.go(1, 0);
         tries(x, 0, 3);
+        eachGateByItself();
         SoundToll y = Check.made("c00,g00", "a", "g");
         tries(y, 0, 0);
         y.wind(0, 3);
         tries(y, 0, 1);
+    }
+
+    /** What is SEEN at one GATE tells nothing of another one. */
+    private void eachGateByItself() {
+        for (int gate = 0; gate < 2; gate++) {
+            int other = 1 - gate;
+            SoundToll x = Check.made("g00,g00", "aaaaaaaaa", "aaaa", "a", "aa");
+            x.see(0, gate, true);
+            tries(x, gate, 1);
+            tries(x, other, 0);
+            x.see(1, gate, false);
+            due("5 to 9", x.gate(gate, MANY), 5);
+            tries(x, gate, 0);
+            x.see(2, other, false);
+            x.see(1, other, true);
+            due("2 to 4", x.gate(other, MANY), 3);
+            tries(x, other, 3);
+            tries(x, gate, 0);
+            x.see(0, gate, false);
+            due("none", x.gate(gate, MANY), 0);
+            tries(x, gate, NONE);
+            tries(x, other, 3);
+        }
     }
 
     private void leastOfLikeOnes() {

@@ -155,6 +155,8 @@ final class TuneEdges extends Edges {
         told(7, "2[<a>]", 2);
         told(7, "<2[a]>", 2);
         told(7, "<<a>>b", 2);
+        told(7, "<<a>>2[b]", 2);
+        told(7, "3[<<a>>]2[b]c", 3);
         told(7, "a<b2[c]<d>>", 2);
         told(7, "<<a>2[b<c>]>", 3);
         told(7, "2[2[2[2[a]]]]", 4);

@@ -162,8 +162,8 @@ final class WorthEdges extends Edges {
     private void change() {
         int[] want = {3, 2, 1, 0};
         for (int toll = 0; toll <= 3; toll++) {
-            int asked = toll;
-            still(() -> Check.made("g0" + asked + ",g99", "abc"), "send(1) at toll " + toll, x -> x.send(1), want[toll]);
+            String road = "g0" + toll + ",g99";
+            still(() -> Check.made(road, "abc"), "send(1) at toll " + toll, x -> x.send(1), want[toll]);
         }
         still(() -> Check.made("g04,g99", "abc"), "send(1) where none passes", x -> x.send(1), 0);
     }

@@ -141,8 +141,9 @@ final class WouldBeEdges extends Edges {
 
     private void higherUnknown() {
         for (int what : new int[] {0, 1, -1, 2}) {
-            refusesNoBook("higher(.., " + what + ")", (x, book) -> x.higher(book, what));
-            refuses(SoundToll::new, "higher(.., " + what + ")", (x, book) -> x.higher(book, what), UNKNOWN, -1, 0, 3, 4);
+            OfOne call = (x, book) -> x.higher(book, what);
+            refusesNoBook("higher(.., " + what + ")", call);
+            refuses(SoundToll::new, "higher(.., " + what + ") of a new object", call, UNKNOWN, -1, 0, 3, 4);
         }
         still(Scenes::busy, "higher(3, 1)", x -> x.higher(3, 1), 1);
     }
