@@ -162,10 +162,13 @@ final class SeenEdges extends Edges {
             due("2 to 4", x.gate(other, MANY), 3);
             tries(x, other, 3);
             tries(x, gate, 0);
+            Check.write(x, 3, "aaaaaaa");
+            tries(x, gate, 3);
+            tries(x, other, 0);
             x.see(0, gate, false);
             due("none", x.gate(gate, MANY), 0);
             tries(x, gate, NONE);
-            tries(x, other, 3);
+            tries(x, other, 0);
         }
     }
 
