@@ -480,9 +480,9 @@ public final class SoundToll {
         return code >= 'a' && code <= 'g';
     }
 
-    /** A BEAT with all its NOTES by so many higher, a above g. */
+    /** A BEAT with all its NOTES by so many (0 or more) higher, a above g. */
     private static int raised(int beat, int by) {
-        int turn = Math.floorMod(by, NOTES);
+        int turn = by % NOTES;
         return (beat << turn | beat >> NOTES - turn) & (1 << NOTES) - 1;
     }
 
@@ -916,9 +916,11 @@ public final class SoundToll {
 
         void copyFrom(Seen other) {
             size = other.size;
-            System.arraycopy(other.gates, 0, gates, 0, MOST_SEEN);
-            System.arraycopy(other.paid, 0, paid, 0, MOST_SEEN);
-            System.arraycopy(other.passed, 0, passed, 0, MOST_SEEN);
+            for (int row = 0; row < MOST_SEEN; row++) {
+                gates[row] = other.gates[row];
+                paid[row] = other.paid[row];
+                passed[row] = other.passed[row];
+            }
         }
 
         int leastToll(int gate) {
@@ -1176,50 +1178,62 @@ public final class SoundToll {
 
     /** SEND: tries all ways in the order of their numbers, so that the first one of the best is kept. */
     private static final class Plan {
+        /** None, or one of the GATES. */
+        private static final int CHOICES = 1 + MOST_GATES;
+        private static final int WAYS = CHOICES * CHOICES * CHOICES * CHOICES;
+
         private final int[][] changes = new int[BOOKS][MOST_GATES];
         private final int[] trial = new int[BOOKS];
         private final int[] best = new int[BOOKS];
-        private int gateCount;
         int sent;
         int change;
 
         void make(World world, Keeper keeper) {
-            gateCount = world.gateCount;
-            sent = NONE;
-            change = 0;
             for (int book = 0; book < BOOKS; book++) {
-                Tune tune = world.tuneIn(book);
-                for (int number = 0; number < gateCount; number++) {
-                    changes[book][number] = tune == null ? NONE : changeOf(tune, world.gates[number], keeper);
+                for (int number = 0; number < MOST_GATES; number++) {
+                    changes[book][number] = changeOf(world.tuneIn(book), world.gateAt(number), keeper);
                 }
             }
-            choose(0, 0, 0, 0);
+            sent = NONE;
+            change = 0;
+            for (int way = 0; way < WAYS; way++) {
+                tryWay(way);
+            }
         }
 
         int gateOf(int book) {
             return book < 0 || book >= BOOKS ? NONE : best[book];
         }
 
-        /** NONE: it does not PASS. */
+        /** NONE: it does not PASS, or there is no such TUNE or GATE. */
         private static int changeOf(Tune tune, Gate at, Keeper keeper) {
+            if (tune == null || at == null) {
+                return NONE;
+            }
             int paid = keeper.paid(tune, at, at.wind);
             return paid >= at.toll ? paid - at.toll : NONE;
         }
 
-        /** The BOOKS ahead of this one are sent; taken are the GATES that they go to, as bits. */
-        private void choose(int book, int taken, int sentNow, int changeNow) {
-            if (book < 0 || book >= BOOKS) {
-                keepIfBetter(sentNow, changeNow);
-                return;
-            }
-            trial[book] = NONE;
-            choose(book + 1, taken, sentNow, changeNow);
-            for (int number = 0; number < gateCount; number++) {
-                if (changes[book][number] != NONE && (taken >> number & 1) == 0) {
-                    trial[book] = number;
-                    choose(book + 1, taken | 1 << number, sentNow + 1, changeNow + changes[book][number]);
+        /** A way has a digit for each BOOK, the last one for the last BOOK: 0 is none, else 1 more than the GATE. */
+        private void tryWay(int way) {
+            int rest = way;
+            int taken = 0;
+            int sentNow = 0;
+            int changeNow = 0;
+            for (int book = BOOKS - 1; book >= 0; book--) {
+                int number = rest % CHOICES - 1;
+                rest /= CHOICES;
+                trial[book] = number;
+                if (number >= 0) {
+                    if (changes[book][number] == NONE || (taken >> number & 1) != 0) {
+                        return;
+                    }
+                    taken |= 1 << number;
+                    sentNow++;
+                    changeNow += changes[book][number];
                 }
             }
+            keepIfBetter(sentNow, changeNow);
         }
 
         private void keepIfBetter(int sentNow, int changeNow) {
